@@ -71,6 +71,7 @@ public final class HouseTest {
             "h3;b0;011x", "h3;b0;0111", "h3;b0;011d", "h3;b0;011d0", "h3;b0;011d;", "h3;b0;011d1d", "h3;b0;011d11",
             "h3;b0;011;", "h3;b0;011;;", "h3;b0;011;b", "h3;b0;011;212d3;22", "h2;b2;011", "h2;b0;021", "h3;b0;011h",
             "h8;b8", "H3", "h3;b0;01:", "h3;b0;01/", "h3;b:", "h3;b/",
+            ";011", "h;011", "h3;011", "h3;;011", "h3;b;011", "h3;b0;011d:", "h3;b0;011d/", "h:", "h2;b0;0:1",
         };
         int[] faults = {
             0, 0, 0, 1, 1, 1, 1, 1, 2, 2, 3, 3, 4, 4, 5, 5,
@@ -78,6 +79,7 @@ public final class HouseTest {
             9, 9, 10, 10, 10, 11, 11,
             10, 10, 10, 17, 4, 7, 9,
             4, 0, 8, 8, 4, 4,
+            0, 1, 3, 3, 4, 10, 10, 1, 7,
         };
         DUE.is("2 the table", faults.length, texts.length);
         for (int t = 0; t < texts.length; t++) {
@@ -162,6 +164,9 @@ public final class HouseTest {
         DUE.is("2 is of no way", x.ofPoint(0, 3), NONE);
         DUE.is("2 the first way", Lamps.lay(x, 0, 9, 0), 0);
         DUE.is("2 the first reading", x.reading(0, 0), 0);
+        DUE.is("2 drilled", Lamps.tell(x, "h2;b0;011d7"), 1);
+        DUE.is("2 not drilled", Lamps.tell(x, "h2;b0;011"), 1);
+        DUE.is("2 not drilled", x.ofRun(0, 3), 0);
     }
 
     private static void ofRun() {

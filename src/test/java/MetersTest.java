@@ -129,6 +129,12 @@ public final class MetersTest {
         LampWays last = loads(2, 2, 2, 6, 3, 3);
         last.reading(63, 6);
         fit(last, 3, 0, 0, 0);
+        LampWays first = loads(2, 3);
+        DUE.is("29 asked ahead of fits", first.next(), 0);
+        first.reading(1, 2);
+        DUE.is("29 asked ahead of fits", first.next(), 1);
+        first.reading(2, 3);
+        DUE.is("29 asked ahead of fits", first.next(), NONE);
         LampWays even = loads(9, 9, 9, 1);
         even.reading(7, 9);
         fit(even, 6, 0, 0, 3);

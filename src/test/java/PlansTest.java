@@ -150,6 +150,12 @@ public final class PlansTest {
         rowOfPlan("not all of three", x, 3, 9, true, 0, 0, 0, 1);
         Lamps.lay(x, 0, 9, 0, 2);
         rowOfPlan("ways that are there do not matter", x, 3, 9, true, 0, 0, 0, 1);
+        LampWays anew = Lamps.lit("h2;b0;014", 1, 1);
+        DUE.is("20 a room would be dark", anew.plan(1, 9, true), NONE);
+        Lamps.tell(anew, "h2;b0;015");
+        anew.point(1, 1, 0);
+        anew.point(1, 1, 1);
+        DUE.is("20 rooms of another house", anew.plan(1, 9, true), 5);
     }
 
     private static void best() {
@@ -157,6 +163,8 @@ public final class PlansTest {
         x.point(1, 5, 0);
         x.point(4, 5, 0);
         DUE.is("22 at an end", x.best(1, 10, false), 1);
+        DUE.is("22 the first place", Lamps.lit("h3;b2;011;121", 0).best(1, 9, false), 0);
+        DUE.is("22 the last place", Lamps.lit("h3;b0;011;121", 2).best(1, 9, false), 2);
         DUE.is("22 each on its own", x.best(2, 5, false), 1);
         x.point(4, 5, 1);
         DUE.is("22 two there", x.best(1, 99, false), 1);

@@ -10,7 +10,9 @@ public final class SheetsTest {
             DUE.is("30 the longest", x.sheet(lane, lane, 100), 1);
             DUE.is("30 its last cell", x.cell(lane, 99, lane), 0);
             x.put(lane, 99, 7);
+            x.put(lane, 0, 7);
             DUE.is("30 a new one", x.sheet(lane, lane, 100), 1);
+            DUE.is("30 has 0 at first", x.cell(lane, 0, lane), 0);
             DUE.is("30 has 0 at first", x.cell(lane, 99, lane), 0);
         }
         DUE.is("30 one of no cells", x.sheet(3, 0, 0), 1);

@@ -217,6 +217,11 @@ public final class WaysTest {
         DUE.is("14 a run is not there", cut.cable(0, 1), STATE);
         DUE.is("14 outside comes first", cut.cable(0, 2), OUTSIDE);
         DUE.is("14 all are there", cut.cable(1, 0), 4);
+        LampWays first = Lamps.lit("h4;b0;011;231", 2, 3, 1);
+        Lamps.lay(first, 0, 9, 0, 1);
+        DUE.is("14 just the first run is not there", first.cable(0, 0), STATE);
+        DUE.is("17 just the first run is not there", first.tooMuch(0), STATE);
+        DUE.is("15 just the first run is not there", first.carries(0, 1, 0), LOST);
         cut.shut(0, true);
         DUE.is("14 shut", cut.cable(1, 0), STATE);
         cut.box(2);
