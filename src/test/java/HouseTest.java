@@ -59,6 +59,8 @@ public final class HouseTest {
         DUE.is("2 the ; of a fifteenth run, alone", Lamps.tell(new LampWays(), s + ";"), -100 - s.length());
         DUE.is("2 another sign there", Lamps.tell(new LampWays(), s + "d"), -100 - s.length());
         LampWays x = Lamps.told(s.toString());
+        x.shut(13, true);
+        DUE.is("2 the last run is shut", x.many(2), 1);
         DUE.is("2 the last run", x.ofRun(13, 0), 5);
         DUE.is("2 the last run", x.ofRun(13, 1), 6);
         DUE.is("2 none behind it", x.ofRun(14, 0), UNKNOWN);
@@ -142,6 +144,7 @@ public final class HouseTest {
         Lamps.lay(x, 2, 9, 0, 1);
         x.reading(1, 1);
         x.shut(0, true);
+        x.shut(2, true);
         x.box(4);
         x.tell(0);
         int trace = x.trace();

@@ -53,6 +53,7 @@ public final class PlansTest {
         row("one of them is cut off", x, 255, 0);
         DUE.is("18 without it", x.least(254, 0), 6);
         DUE.is("18 it alone", x.least(1, 0), NONE);
+        row("it alone", x, 1, 0);
         x.box(7);
         DUE.is("18 at the box", x.least(1, 1), 0);
         DUE.is("18 the others are cut off", x.least(2, 0), NONE);
@@ -165,6 +166,7 @@ public final class PlansTest {
         DUE.is("22 at an end", x.best(1, 10, false), 1);
         DUE.is("22 the first place", Lamps.lit("h3;b2;011;121", 0).best(1, 9, false), 0);
         DUE.is("22 the last place", Lamps.lit("h3;b0;011;121", 2).best(1, 9, false), 2);
+        DUE.is("22 the last of eight", Lamps.lit("h8;b0;671;011", 7, 7).best(1, 9, false), 7);
         DUE.is("22 each on its own", x.best(2, 5, false), 1);
         x.point(4, 5, 1);
         DUE.is("22 two there", x.best(1, 99, false), 1);

@@ -15,6 +15,10 @@ public final class SheetsTest {
             DUE.is("30 has 0 at first", x.cell(lane, 0, lane), 0);
             DUE.is("30 has 0 at first", x.cell(lane, 99, lane), 0);
         }
+        x.put(1, 0, 7);
+        x.sheet(0, 0, 100);
+        DUE.is("30 the sheet beside it stays", x.cell(1, 0, 1), 7);
+        DUE.is("30 the last one", x.sheet(3, 2, 100), 1);
         DUE.is("30 one of no cells", x.sheet(3, 0, 0), 1);
         DUE.is("30 has none", x.cell(3, 0, 0), LOST);
         DUE.is("30 but is there", x.fault(), 3);
