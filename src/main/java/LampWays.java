@@ -1253,7 +1253,7 @@ public final class LampWays {
         }
 
         private int leastFrom(int at, int set) {
-            int least = Integer.MAX_VALUE;
+            int least = FAR;
             for (int q = 0; q < MOST_POINTS; q++) {
                 if ((set >> q & 1) != 0) {
                     least = Math.min(least, over(at, q, set));
@@ -1486,7 +1486,7 @@ public final class LampWays {
 
         int mostEven(int howMany) {
             int found = NONE;
-            int leastPart = Integer.MAX_VALUE;
+            int leastPart = fitting + 1;
             for (int p = 0; p < howMany; p++) {
                 int part = Math.max(fittingWith[p], fitting - fittingWith[p]);
                 if (part < leastPart) {

@@ -14,7 +14,7 @@ public final class LanguageTest {
         "\\bassert\\b", "->", "::", "@\\w", "Exact\\b", "\\bequals\\b", "\\bhashCode\\b", "\\btoString\\b",
         "\\bnative\\b", "\\bvolatile\\b", "\\bprotected\\b", "\\bvar\\b", "\\bObject\\b", "\\bwhile\\b",
         "\\bSystem\\.(?!arraycopy\\b)", "\\bMath\\.(?!abs\\b|min\\b|max\\b)",
-        "\\bInteger\\.(?!bitCount\\b|MAX_VALUE\\b|MIN_VALUE\\b)", "\\bLong\\.(?!MIN_VALUE\\b)",
+        "\\bInteger\\.(?!bitCount\\b)", "\\bLong\\.(?!MIN_VALUE\\b)",
         "static\\s*\\{", "[^\\x00-\\x7F]",
     };
 

@@ -1,13 +1,8 @@
-import java.lang.reflect.Method;
-import java.util.Arrays;
-import java.util.HashMap;
-import java.util.Map;
 import java.util.Random;
 
 /** Runs of calls, made up from fixed seeds, of which every answer has to be the plain model's. */
 public final class ModelTest {
     private static final int RUNS = 500;
-    private static final int CALLS = 512;
     private static final int[] ODD = {-1, -2, Integer.MIN_VALUE, Integer.MAX_VALUE, 100, 1000, 255, 256, 65536 + 3};
     private static final String[] ASKED = {
         "ofRun", "shut", "run", "along", "box", "point", "ofPoint", "load", "away", "ofWay", "cable", "carries",
@@ -15,47 +10,18 @@ public final class ModelTest {
         "fits", "next", "sheet", "lose", "put", "cell", "copy", "tell", "label", "as", "trace", "many", "way", "house",
     };
 
-    private final Due due;
     private final Random random;
-    private final int seed;
-    private final Map<String, Method> ofClass = new HashMap<>();
-    private final Map<String, Method> ofModel = new HashMap<>();
-    private final LampWays lamps = new LampWays();
-    private final Model model = new Model();
-    private int calls;
-    private boolean isWrong;
+    private final Pair pair;
+    private final Model model;
 
     private ModelTest(Due due, int seed) {
-        this.due = due;
-        this.seed = seed;
         random = new Random(seed);
-        for (Method m : LampWays.class.getDeclaredMethods()) {
-            ofClass.put(m.getName(), m);
-        }
-        for (Method m : Model.class.getDeclaredMethods()) {
-            if (!java.lang.reflect.Modifier.isPrivate(m.getModifiers())) {
-                ofModel.put(m.getName(), m);
-            }
-        }
+        pair = new Pair(due, "seed " + seed);
+        model = pair.model();
     }
 
-    private long ask(String name, Object... given) {
-        if (calls >= CALLS || isWrong) {
-            return 0;
-        }
-        calls++;
-        try {
-            long want = ((Number) ofModel.get(name).invoke(model, given)).longValue();
-            long got = ((Number) ofClass.get(name).invoke(lamps, given)).longValue();
-            isWrong = got != want;
-            due.is("seed " + seed + ", call " + calls + ", " + name + Arrays.toString(given), got, want);
-            return got;
-        } catch (ReflectiveOperationException e) {
-            isWrong = true;
-            due.is("seed " + seed + ", call " + calls + ", " + name + Arrays.toString(given) + " threw "
-                    + e.getCause(), 1, 0);
-            return 0;
-        }
+    private void ask(String name, Object... given) {
+        pair.ask(name, given);
     }
 
     /** Below the bound for the most part, else at it, just past it, or far away. */
@@ -194,7 +160,7 @@ public final class ModelTest {
                 ask("point", random.nextInt(model.many(0)), 1 + random.nextInt(20), random.nextInt(6));
             }
         }
-        while (calls < CALLS && !isWrong) {
+        while (pair.hasCallsLeft(1)) {
             int what = random.nextInt(150);
             if (what == 0) {
                 tellHouse(text());

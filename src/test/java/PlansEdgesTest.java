@@ -89,7 +89,8 @@ public final class PlansEdgesTest {
             for (int kind = 0; kind <= 1; kind++) {
                 int due = set >= 4 ? NONE : set == 1 ? 0 : kind + 1;
                 DUE.is("18 set " + set + ", kind " + kind, x.least(set, kind), due);
-                DUE.is("19 set " + set + ", kind " + kind, x.order(set, kind, 0), due == NONE ? NONE : set == 2 ? 1 : 0);
+                int first = due == NONE ? NONE : set == 2 ? 1 : 0;
+                DUE.is("19 set " + set + ", kind " + kind, x.order(set, kind, 0), first);
             }
         }
         x.shut(0, true);
@@ -130,7 +131,7 @@ public final class PlansEdgesTest {
         DUE.is("20 all the load by three", eight.plan(3, 60, false), 9);
         DUE.is("20 all the load by three, one less", eight.plan(3, 59, false), NONE);
         rowOfPlan("all the load by three", eight, 3, 60, false, 0, 0, 0, 1, 1, 1, 2, 2);
-        rowOfPlan("all the load by three, one less", eight, 3, 59, true, NONE, NONE, NONE, NONE, NONE, NONE, NONE, NONE);
+        rowOfPlan("all the load by three, one less", eight, 3, 59, true, all(8, NONE));
     }
 
     /** "w (1 .. 3)": so many at most, fewer where that needs less. */
@@ -161,7 +162,8 @@ public final class PlansEdgesTest {
             }
             DUE.is("20 of " + n, x.plan(1, 8, false), n == 0 ? STATE : 2);
             DUE.is("20 of " + n + ", f so many", x.plan(1, Math.max(1, n), false), n == 0 ? STATE : 2);
-            DUE.is("20 of " + n + ", f one less", x.plan(1, Math.max(1, n - 1), false), n == 0 ? STATE : n == 1 ? 2 : NONE);
+            int oneLess = n == 0 ? STATE : n == 1 ? 2 : NONE;
+            DUE.is("20 of " + n + ", f one less", x.plan(1, Math.max(1, n - 1), false), oneLess);
             DUE.is("21 of the last of " + n, x.on(1, 8, false, n - 1), n == 0 ? UNKNOWN : 0);
             DUE.is("21 of one more than " + n, x.on(1, 8, false, n), UNKNOWN);
             DUE.is("22 of " + n, x.best(1, 8, false), n == 0 ? STATE : 1);
@@ -260,7 +262,7 @@ public final class PlansEdgesTest {
         }
     }
 
-    /** "switched from 1 to 4 PLACES (unlike ones)"; "OUTSIDE: set (1 to 4 of those there are)": each set of each house. */
+    /** "switched from 1 to 4 PLACES (unlike ones)"; "OUTSIDE: set (1 to 4 of those there are)": each set. */
     private static void setsOfDoors() {
         for (int n = 2; n <= 8; n++) {
             LampWays x = Lamps.told("h" + n + ";b0;011");

@@ -104,7 +104,8 @@ public final class WaysEdgesTest {
                 DUE.is("13 how many", x.ofWay(0, 2), taken ? n : UNKNOWN);
                 DUE.is("13 pieces", x.ofWay(0, 3), !taken ? UNKNOWN : kind == 0 ? n : n + 1);
                 for (int k = 0; k < 8; k++) {
-                    DUE.is("13 the " + k + "-th of " + n, x.ofWay(0, 10 + k), !taken ? UNKNOWN : k < n ? 7 - k : OUTSIDE);
+                    int stop = !taken ? UNKNOWN : k < n ? 7 - k : OUTSIDE;
+                    DUE.is("13 the " + k + "-th of " + n, x.ofWay(0, 10 + k), stop);
                     DUE.is("9 whose point " + (7 - k) + " is", x.ofPoint(7 - k, 3), taken && k < n ? 0 : NONE);
                 }
                 for (int what : new int[] {4, 5, 6, 7, 8, 9}) {
@@ -165,7 +166,7 @@ public final class WaysEdgesTest {
         }
     }
 
-    /** "WAYS, 6 ever, numbered as they come"; "One that is taken AWAY is not there any more (number not given again)". */
+    /** "WAYS, 6 ever, numbered as they come"; "taken AWAY .. (its number is not given again)". */
     private static void sixWays() {
         LampWays x = Lamps.lit("h2;b0;011", 1, 0, 1, 0, 1, 0, 1);
         for (int way = 0; way < 6; way++) {
