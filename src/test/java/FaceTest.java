@@ -30,11 +30,19 @@ public final class FaceTest {
 
     public static void main(String[] args) {
         Due due = new Due("FaceTest");
+        due.holds("no package", LampWays.class.getPackageName().isEmpty());
+        due.holds("nothing above it", LampWays.class.getSuperclass() == Object.class
+                && LampWays.class.getInterfaces().length == 0);
         due.holds("public final class", Modifier.isPublic(LampWays.class.getModifiers())
                 && Modifier.isFinal(LampWays.class.getModifiers()));
         TreeSet<String> seen = new TreeSet<>();
         TreeSet<String> hidden = new TreeSet<>();
+        for (Class<?> inside : LampWays.class.getDeclaredClasses()) {
+            due.holds(inside.getSimpleName() + " is static and not to be seen", Modifier.isStatic(inside.getModifiers())
+                    && !Modifier.isPublic(inside.getModifiers()) && !Modifier.isProtected(inside.getModifiers()));
+        }
         for (Method m : LampWays.class.getDeclaredMethods()) {
+            due.holds(m.getName() + " names no exception", m.getExceptionTypes().length == 0);
             (Modifier.isPrivate(m.getModifiers()) ? hidden : seen).add(
                     Modifier.isPrivate(m.getModifiers()) ? m.getName() : written(m));
             due.holds(m.getName() + " is no static one of the face",
@@ -48,6 +56,8 @@ public final class FaceTest {
         TreeSet<String> constants = new TreeSet<>();
         for (Field f : LampWays.class.getDeclaredFields()) {
             if (!Modifier.isPrivate(f.getModifiers())) {
+                due.is(f.getName() + " is public, static, final", f.getModifiers(),
+                        Modifier.PUBLIC | Modifier.STATIC | Modifier.FINAL);
                 constants.add(f.getType().getName() + " " + f.getName());
             }
         }

@@ -151,6 +151,9 @@ public final class PlansTest {
         rowOfPlan("not all of three", x, 3, 9, true, 0, 0, 0, 1);
         Lamps.lay(x, 0, 9, 0, 2);
         rowOfPlan("ways that are there do not matter", x, 3, 9, true, 0, 0, 0, 1);
+        Lamps.lay(x, 0, 9, 1);
+        rowOfPlan("nor do their numbers", x, 3, 9, true, 0, 0, 0, 1);
+        DUE.is("20 nor do their fuses", x.plan(3, 1, true), NONE);
         LampWays anew = Lamps.lit("h2;b0;014", 1, 1);
         DUE.is("20 a room would be dark", anew.plan(1, 9, true), NONE);
         Lamps.tell(anew, "h2;b0;015");
@@ -219,12 +222,22 @@ public final class PlansTest {
         DUE.is("23 unknown comes first", none.costs(6, 4, 9, true), UNKNOWN);
     }
 
-    private static void readme() {
-        LampWays x = Lamps.told(Lamps.FIVE);
-        x.point(1, 5, 0);
-        x.point(3, 7, 0);
-        DUE.is("18 as the README says", x.least(3, 0), 6);
-        DUE.is("20 as the README says", x.plan(2, 12, true), 9);
+    /** "if it were SHUT, less that now": of a run that is shut now both are the same, though open it would save. */
+    private static void costsOfShutOnes() {
+        LampWays x = Lamps.lit("h3;b0;011;019;121;021", 1, 2);
+        x.shut(0, true);
+        x.shut(3, true);
+        DUE.is("23 now the long one is needed", x.plan(1, 9, false), 10);
+        DUE.is("23 a shut one that would save", x.costs(0, 1, 9, false), 0);
+        DUE.is("23 another one that would save", x.costs(3, 1, 9, false), 0);
+        DUE.is("23 the long one", x.costs(1, 1, 9, false), NONE);
+        x.shut(3, false);
+        DUE.is("23 a shut one that would not save", x.costs(0, 1, 9, false), 0);
+        DUE.is("23 the short one", x.costs(3, 1, 9, false), 8);
+        x.shut(1, true);
+        x.shut(3, true);
+        DUE.is("23 no plan now, though open there would be one", x.costs(3, 1, 9, false), NONE);
+        DUE.is("23 three are shut", x.many(2), 3);
     }
 
     public static void main(String[] args) {
@@ -236,7 +249,7 @@ public final class PlansTest {
         dark();
         best();
         costs();
-        readme();
+        costsOfShutOnes();
         DUE.end();
     }
 }
