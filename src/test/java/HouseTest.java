@@ -59,6 +59,7 @@ public final class HouseTest {
         DUE.is("2 the ; of a fifteenth run, alone", Lamps.tell(new LampWays(), s + ";"), -100 - s.length());
         DUE.is("2 another sign there", Lamps.tell(new LampWays(), s + "d"), -100 - s.length());
         LampWays x = Lamps.told(s.toString());
+        DUE.is("2 fourteen runs, no fault", x.fault(), 0);
         x.shut(13, true);
         DUE.is("2 the last run is shut", x.many(2), 1);
         DUE.is("2 the last run", x.ofRun(13, 0), 5);

@@ -204,6 +204,14 @@ public final class PlansEdgesTest {
         rowOfPlan("dark and a fuse", fused, 2, 6, true, 0, 1, 0);
         rowOfPlan("dark and a lesser fuse", fused, 2, 5, true, NONE, NONE, NONE);
         rowOfPlan("dark and a lesser fuse by three", fused, 3, 5, true, 0, 1, 2);
+        LampWays star = Lamps.told("h4;b0;011;021;031");
+        for (int p = 0; p < 4; p++) {
+            star.point(Math.min(p + 1, 3), 1, Math.min(p, 2));
+        }
+        DUE.is("20 a room on the third way, not looked at", star.plan(3, 9, false), 3);
+        rowOfPlan("a room on the third way, not looked at", star, 3, 9, false, 0, 1, 2, 2);
+        DUE.is("20 a room on the third way", star.plan(3, 9, true), 5);
+        rowOfPlan("a room on the third way", star, 3, 9, true, 0, 0, 1, 2);
     }
 
     /** Promise 22: "of several the least PLACE"; "NONE: there is no PLAN anywhere". */

@@ -115,6 +115,13 @@ public final class SheetsEdgesTest {
         DUE.is("31 lost", x.lose(3), 1);
         x.sheet(3, 2, 100);
         DUE.is("30 lost and anew", x.cell(3, 99, 2), 0);
+        DUE.is("31 lost again", x.lose(3), 1);
+        DUE.is("30 lost and anew of none", x.sheet(3, 2, 0), 1);
+        DUE.is("30 of none no cell is left", x.cell(3, 0, 2), LOST);
+        DUE.is("30 of none no cell is left, its fault", x.fault(), 3);
+        DUE.is("30 of none no cell is put", x.put(3, 0, 1), -13);
+        DUE.is("30 of none one is copied", x.copy(3, 0, 3, 0, 1), -13);
+        DUE.is("30 of none a text is read", x.house(3, 2, 0, 1), -13);
     }
 
     /** "what comes to a cell of it is cut to its LANE". */
